@@ -1,0 +1,87 @@
+import java.util.ArrayList;
+import java.util.List;
+
+/** Compares answers with those that are due, and tells those that differ. */
+final class Answers {
+    private int wrong = 0;
+
+    void same(String call, Object got, Object due) {
+        if (!got.equals(due)) {
+            wrong++;
+            System.out.println(call + " answered " + got + ", due is " + due);
+        }
+    }
+
+    /** The very class is due: the machine's own exceptions are under IndexOutOfBoundsException. */
+    void refused(String call, Class<? extends RuntimeException> due, Runnable run) {
+        same(call, thrownBy(run), due.getSimpleName());
+    }
+
+    /** The call throws, and all that can be seen of the object stays. */
+    void refusedUnchanged(
+            String call, TileBins bins, Class<? extends RuntimeException> due, Runnable run) {
+        List<Integer> before = seen(bins);
+        refused(call, due, run);
+        same("after " + call + " all", seen(bins), before);
+    }
+
+    void rectangleOfItem(String call, TileBins bins, int n, int... due) {
+        for (int what = 0; what < due.length; what++) {
+            same(call + ": item(" + n + ", " + what + ")", bins.item(n, what), due[what]);
+        }
+    }
+
+    void partsOfTile(String call, TileBins bins, int n, int... due) {
+        for (int what = 0; what < due.length; what++) {
+            same(call + ": tile(" + n + ", " + what + ")", bins.tile(n, what), due[what]);
+        }
+    }
+
+    void counts(String call, TileBins bins, int... due) {
+        for (int what = 0; what < due.length; what++) {
+            same(call + ": count(" + what + ")", bins.count(what), due[what]);
+        }
+    }
+
+    /** The items that come from here on, and one NONE behind them. */
+    void comes(String call, TileBins bins, int... due) {
+        for (int n : due) {
+            same(call + ": next()", bins.next(), n);
+        }
+        same(call + ": next() behind the last", bins.next(), TileBins.NONE);
+    }
+
+    void end() {
+        System.out.println(wrong == 0 ? "all answers are as due" : wrong + " answers are not as due");
+        if (wrong != 0) {
+            System.exit(1);
+        }
+    }
+
+    private static String thrownBy(Runnable run) {
+        try {
+            run.run();
+        } catch (RuntimeException e) {
+            return e.getClass().getSimpleName();
+        }
+        return "nothing";
+    }
+
+    private static List<Integer> seen(TileBins bins) {
+        List<Integer> all = new ArrayList<>();
+        for (int what = 0; what <= 4; what++) {
+            all.add(bins.count(what));
+        }
+        for (int n = 0; n < bins.count(0); n++) {
+            for (int what = 0; what <= 5; what++) {
+                all.add(bins.item(n, what));
+            }
+        }
+        for (int n = 0; n < bins.count(3); n++) {
+            for (int what = 0; what <= 4; what++) {
+                all.add(bins.tile(n, what));
+            }
+        }
+        return all;
+    }
+}
