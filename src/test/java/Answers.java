@@ -25,7 +25,7 @@ final class Answers {
         same("after " + call + " all", seen(bins), before);
     }
 
-    void rectangleOfItem(String call, TileBins bins, int n, int... due) {
+    void partsOfItem(String call, TileBins bins, int n, int... due) {
         for (int what = 0; what < due.length; what++) {
             same(call + ": item(" + n + ", " + what + ")", bins.item(n, what), due[what]);
         }

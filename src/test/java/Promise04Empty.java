@@ -18,7 +18,7 @@ public final class Promise04Empty {
         answers.comes("empty", bins);
 
         answers.same("put", bins.put(20, 2, 21, 3, 9), 0);
-        answers.rectangleOfItem("put after empty", bins, 0, 20, 2, 21, 3, 9, 1);
+        answers.partsOfItem("put after empty", bins, 0, 20, 2, 21, 3, 9, 1);
         answers.same("old tile", bins.tile(0, 4), 0);
         answers.same("open(1)", bins.open(1), 1);
         answers.comes("put after empty", bins, 0);

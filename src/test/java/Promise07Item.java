@@ -27,7 +27,7 @@ public final class Promise07Item {
 
     private static void check(Answers answers, TileBins bins, int[] a, int... due) {
         int n = bins.put(a[0], a[1], a[2], a[3], a[4]);
-        answers.rectangleOfItem("item " + n, bins, n, due);
+        answers.partsOfItem("item " + n, bins, n, due);
     }
 
     private static void wrongInputs(Answers answers, TileBins bins) {
