@@ -4,11 +4,17 @@ import java.util.List;
 /** Compares answers with those that are due, and tells those that differ. */
 final class Answers {
     private int wrong = 0;
+    private String sentence = "";
+
+    /** What follows tests this sentence of the document. */
+    void sentence(String words) {
+        sentence = "\"" + words + "\": ";
+    }
 
     void same(String call, Object got, Object due) {
         if (!got.equals(due)) {
             wrong++;
-            System.out.println(call + " answered " + got + ", due is " + due);
+            System.out.println(sentence + call + " answered " + got + ", due is " + due);
         }
     }
 
