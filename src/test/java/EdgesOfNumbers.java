@@ -1,4 +1,5 @@
-import java.util.function.IntConsumer;
+import java.util.function.ObjIntConsumer;
+import java.util.function.Supplier;
 
 /** Each number that the document bounds: just below, at and just above each edge, and far off. */
 public final class EdgesOfNumbers {
@@ -34,9 +35,8 @@ public final class EdgesOfNumbers {
             answers.same("its last place", bins.tileOf(row[0] - 1, 4), row[1] - 1);
             answers.refused("its place behind", ARGUMENT, () -> bins.tileOf(row[0], 4));
         }
-        TileBins bins = new TileBins();
-        refusedEach(answers, bins, "field wide", ARGUMENT, wide -> bins.field(wide, 5, 8, 1),
-                -1, 0, 1025, 65536 + 5, -5, -1024);
+        refusedEach(answers, TileBins::new, "field wide", ARGUMENT,
+                (bins, wide) -> bins.field(wide, 5, 8, 1), -1, 0, 1025, 65536 + 5, -5, -1024);
     }
 
     private static void heights(Answers answers) {
@@ -48,9 +48,8 @@ public final class EdgesOfNumbers {
             answers.same("its last place", bins.tileOf(4, row[0] - 1), row[1] - 1);
             answers.refused("its place behind", ARGUMENT, () -> bins.tileOf(4, row[0]));
         }
-        TileBins bins = new TileBins();
-        refusedEach(answers, bins, "field high", ARGUMENT, high -> bins.field(5, high, 8, 1),
-                -1, 0, 1025, 65536 + 5, -5, -1024);
+        refusedEach(answers, TileBins::new, "field high", ARGUMENT,
+                (bins, high) -> bins.field(5, high, 8, 1), -1, 0, 1025, 65536 + 5, -5, -1024);
     }
 
     private static void widthAndHeightAtOnce(Answers answers) {
@@ -63,8 +62,9 @@ public final class EdgesOfNumbers {
         int[][] wrong = {{1024, 1025}, {1025, 1024}, {1025, 1025}, {0, 1}, {1, 0}, {0, 0}, {0, 1024},
             {1024, 0}, {-1, -1}};
         for (int[] size : wrong) {
-            answers.refusedUnchanged("field(" + size[0] + ", " + size[1] + ", 8, 1)", bins,
-                    ARGUMENT, () -> bins.field(size[0], size[1], 8, 1));
+            answers.refusedUnchanged("field(" + size[0] + ", " + size[1] + ", 8, 1)",
+                    () -> fieldOf(1, 1024, 64), ARGUMENT,
+                    one -> one.field(size[0], size[1], 8, 1));
         }
     }
 
@@ -76,12 +76,11 @@ public final class EdgesOfNumbers {
             answers.same("field of side " + side, bins.field(64, 64, side, 1),
                     64 / side * (64 / side));
             answers.partsOfTile("side " + side, bins, 0, 0, 0, side, side, 0);
-            refusedEach(answers, bins, "field of side", ARGUMENT, one -> bins.field(64, 64, one, 1),
-                    side - 1, side + 1, -side, side + 256, side + 65536);
+            refusedEach(answers, () -> fieldOf(64, 64, side), "field of side", ARGUMENT,
+                    (made, one) -> made.field(64, 64, one, 1), side - 1, side + 1, -side, side + 256, side + 65536);
         }
-        TileBins bins = new TileBins();
-        refusedEach(answers, bins, "field of side", ARGUMENT, one -> bins.field(64, 64, one, 1),
-                -1, 0, 1, 2, 3, 4, 5, 6, 24, 40, 48, 56, 128, 1024);
+        refusedEach(answers, TileBins::new, "field of side", ARGUMENT,
+                (made, one) -> made.field(64, 64, one, 1), -1, 0, 1, 2, 3, 4, 5, 6, 24, 40, 48, 56, 128, 1024);
     }
 
     private static void cells(Answers answers) {
@@ -92,9 +91,8 @@ public final class EdgesOfNumbers {
             answers.same("field of " + cells + " cells", bins.field(9, 9, 8, cells), 4);
             answers.same("count(2)", bins.count(2), cells);
         }
-        TileBins bins = new TileBins();
-        refusedEach(answers, bins, "field of cells", ARGUMENT, cells -> bins.field(9, 9, 8, cells),
-                -1, 0, 8193, 65536 + 1, -8192);
+        refusedEach(answers, TileBins::new, "field of cells", ARGUMENT,
+                (bins, cells) -> bins.field(9, 9, 8, cells), -1, 0, 8193, 65536 + 1, -8192);
     }
 
     private static void tilesToOpen(Answers answers) {
@@ -108,29 +106,42 @@ public final class EdgesOfNumbers {
                 answers.same("open(" + tile + ") of " + tiles, bins.open(tile), 0);
                 answers.same("count(4)", bins.count(4), tile);
             }
-            refusedEach(answers, bins, "open of " + tiles, ARGUMENT, bins::open,
-                    -1, -2, tiles, tiles + 1, 16384, -tiles);
+            refusedEach(answers, () -> withLastTileOpen(field), "open of " + tiles, ARGUMENT,
+                    TileBins::open, -1, -2, tiles, tiles + 1, 16384, -tiles);
         }
-        TileBins most = new TileBins();
-        most.field(1024, 1024, 8, 1);
+        TileBins most = fieldOf(1024, 1024, 8);
         answers.same("open(16383)", most.open(16383), 0);
         answers.refused("open(16384)", ARGUMENT, () -> most.open(16384));
         answers.same("count(4)", most.count(4), 16383);
     }
 
+    private static TileBins withLastTileOpen(int[] field) {
+        TileBins bins = fieldOf(field[0], field[1], field[2]);
+        bins.open(bins.count(3) - 1);
+        return bins;
+    }
+
     private static void itemNumbers(Answers answers) {
         answers.sentence("IndexOutOfBoundsException if there is no such item");
-        TileBins bins = new TileBins();
-        bins.field(9, 9, 8, 10);
         for (int items = 0; items <= 3; items++) {
+            int many = items;
+            TileBins bins = withItems(many);
             for (int n = 0; n < items; n++) {
                 answers.same("item(" + n + ", 4) of " + items, bins.item(n, 4), 70 + n);
             }
             // Six times the last two wraps around to 2 and -2.
-            refusedEach(answers, bins, "item of " + items, INDEX, n -> bins.item(n, 4),
+            refusedEach(answers, () -> withItems(many), "item of " + items, INDEX,
+                    (made, n) -> made.item(n, 4),
                     -1, items, items + 1, 4095, 4096, 715827883, -715827883);
-            bins.put(0, 0, 1, 1, 70 + items);
         }
+    }
+
+    private static TileBins withItems(int many) {
+        TileBins bins = fieldOf(9, 9, 8);
+        for (int n = 0; n < many; n++) {
+            bins.put(0, 0, 1, 1, 70 + n);
+        }
+        return bins;
     }
 
     private static void itemNumbersAsTheRowGrows(Answers answers) {
@@ -147,16 +158,20 @@ public final class EdgesOfNumbers {
 
     private static void partsOfAnItem(Answers answers) {
         answers.sentence("item: IllegalArgumentException for another what");
-        TileBins bins = new TileBins();
-        bins.field(40, 20, 16, 100);
-        bins.put(1, 2, 33, 19, 77);
-        bins.put(3, 4, 5, 6, 88);
+        TileBins bins = withTwoItems();
         answers.partsOfItem("first", bins, 0, 1, 2, 33, 19, 77, 6);
         answers.partsOfItem("second", bins, 1, 3, 4, 5, 6, 88, 1);
-        refusedEach(answers, bins, "item(0, ..)", ARGUMENT, what -> bins.item(0, what),
-                -1, 6, 7, 11, 256);
-        refusedEach(answers, bins, "item(1, ..)", ARGUMENT, what -> bins.item(1, what),
-                -1, -6, 6, 7, 256);
+        refusedEach(answers, EdgesOfNumbers::withTwoItems, "item(0, ..)", ARGUMENT,
+                (made, what) -> made.item(0, what), -1, 6, 7, 11, 256);
+        refusedEach(answers, EdgesOfNumbers::withTwoItems, "item(1, ..)", ARGUMENT,
+                (made, what) -> made.item(1, what), -1, -6, 6, 7, 256);
+    }
+
+    private static TileBins withTwoItems() {
+        TileBins bins = fieldOf(40, 20, 16);
+        bins.put(1, 2, 33, 19, 77);
+        bins.put(3, 4, 5, 6, 88);
+        return bins;
     }
 
     private static void tileNumbers(Answers answers) {
@@ -171,8 +186,8 @@ public final class EdgesOfNumbers {
             answers.same("last", bins.tile(tiles - 1, 3), field[1]);
             for (int what = 0; what <= 4; what++) {
                 int asked = what;
-                refusedEach(answers, bins, "tile(.., " + what + ")", ARGUMENT,
-                        n -> bins.tile(n, asked), -1, tiles, 16384, 1 << 28, -tiles);
+                refusedEach(answers, () -> fieldOf(field[0], field[1], field[2]),
+                        "tile(.., " + what + ")", ARGUMENT, (made, n) -> made.tile(n, asked), -1, tiles, 16384, 1 << 28, -tiles);
             }
         }
         TileBins most = new TileBins();
@@ -183,13 +198,18 @@ public final class EdgesOfNumbers {
 
     private static void partsOfATile(Answers answers) {
         answers.sentence("tile: IllegalArgumentException if there is no such .. what");
-        TileBins bins = new TileBins();
-        bins.field(40, 20, 16, 100);
-        bins.put(32, 16, 33, 17, 1);
+        TileBins bins = withItemInLastTile();
         answers.partsOfTile("last", bins, 5, 32, 16, 40, 20, 1);
-        refusedEach(answers, bins, "tile(5, ..)", ARGUMENT, what -> bins.tile(5, what),
-                -1, 5, 6, 256);
-        refusedEach(answers, bins, "tile(6, ..)", ARGUMENT, what -> bins.tile(6, what), -1, 5);
+        refusedEach(answers, EdgesOfNumbers::withItemInLastTile, "tile(5, ..)", ARGUMENT,
+                (made, what) -> made.tile(5, what), -1, 5, 6, 256);
+        refusedEach(answers, EdgesOfNumbers::withItemInLastTile, "tile(6, ..)", ARGUMENT,
+                (made, what) -> made.tile(6, what), -1, 5);
+    }
+
+    private static TileBins withItemInLastTile() {
+        TileBins bins = fieldOf(40, 20, 16);
+        bins.put(32, 16, 33, 17, 1);
+        return bins;
     }
 
     private static void placesAcross(Answers answers) {
@@ -202,8 +222,9 @@ public final class EdgesOfNumbers {
             answers.same("tileOf(last, 0)", bins.tileOf(field[0] - 1, 0),
                     (field[0] - 1) / field[2]);
             for (int y : new int[] {0, field[1] - 1}) {
-                refusedEach(answers, bins, "tileOf(.., " + y + ")", ARGUMENT,
-                        x -> bins.tileOf(x, y), -1, field[0], field[0] + 1, 65536);
+                refusedEach(answers, () -> fieldOf(field[0], field[1], field[2]),
+                        "tileOf(.., " + y + ")", ARGUMENT, (made, x) -> made.tileOf(x, y),
+                        -1, field[0], field[0] + 1, 65536);
             }
         }
     }
@@ -218,20 +239,25 @@ public final class EdgesOfNumbers {
             answers.same("tileOf(0, last)", bins.tileOf(0, field[1] - 1),
                     (field[1] - 1) / field[2] * inRow);
             for (int x : new int[] {0, field[0] - 1}) {
-                refusedEach(answers, bins, "tileOf(" + x + ", ..)", ARGUMENT,
-                        y -> bins.tileOf(x, y), -1, field[1], field[1] + 1, 65536);
+                refusedEach(answers, () -> fieldOf(field[0], field[1], field[2]),
+                        "tileOf(" + x + ", ..)", ARGUMENT, (made, y) -> made.tileOf(x, y),
+                        -1, field[1], field[1] + 1, 65536);
             }
         }
     }
 
     private static void countNumbers(Answers answers) {
         answers.sentence("count: IllegalArgumentException for another what");
-        TileBins bins = new TileBins();
-        bins.field(40, 20, 16, 100);
+        answers.counts("0 .. 4", withItemAndOpenTile(), 1, 4, 100, 6, 3);
+        refusedEach(answers, EdgesOfNumbers::withItemAndOpenTile, "count", ARGUMENT,
+                TileBins::count, -1, -2, 5, 6, 256);
+    }
+
+    private static TileBins withItemAndOpenTile() {
+        TileBins bins = fieldOf(40, 20, 16);
         bins.put(15, 15, 17, 17, 1);
         bins.open(3);
-        answers.counts("0 .. 4", bins, 1, 4, 100, 6, 3);
-        refusedEach(answers, bins, "count", ARGUMENT, bins::count, -1, -2, 5, 6, 256);
+        return bins;
     }
 
     private static void lastCallOf512(Answers answers) {
@@ -245,14 +271,25 @@ public final class EdgesOfNumbers {
         answers.same("call 512", bins.next(), 0);
     }
 
-    /** The numbers told, and those that lie furthest off. */
-    private static void refusedEach(Answers answers, TileBins bins, String call,
-            Class<? extends RuntimeException> due, IntConsumer run, int... numbers) {
+    private static TileBins fieldOf(int wide, int high, int side) {
+        TileBins bins = new TileBins();
+        bins.field(wide, high, side, 100);
+        return bins;
+    }
+
+    /** The numbers told, and those that lie furthest off, each to an object of its own. */
+    private static void refusedEach(Answers answers, Supplier<TileBins> made, String call,
+            Class<? extends RuntimeException> due, ObjIntConsumer<TileBins> run, int... numbers) {
         for (int number : numbers) {
-            answers.refusedUnchanged(call + " " + number, bins, due, () -> run.accept(number));
+            refusedOne(answers, made, call, due, run, number);
         }
-        for (int number : new int[] {Integer.MIN_VALUE, Integer.MAX_VALUE}) {
-            answers.refusedUnchanged(call + " " + number, bins, due, () -> run.accept(number));
-        }
+        refusedOne(answers, made, call, due, run, Integer.MIN_VALUE);
+        refusedOne(answers, made, call, due, run, Integer.MAX_VALUE);
+    }
+
+    private static void refusedOne(Answers answers, Supplier<TileBins> made, String call,
+            Class<? extends RuntimeException> due, ObjIntConsumer<TileBins> run, int number) {
+        answers.refusedUnchanged(
+                call + " " + number, made, due, bins -> run.accept(bins, number));
     }
 }

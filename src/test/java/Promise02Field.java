@@ -50,32 +50,31 @@ public final class Promise02Field {
     }
 
     private static void wrongInputs(Answers answers) {
+        int[] lengths = {0, -1, 1025, Integer.MIN_VALUE, Integer.MAX_VALUE};
+        for (int length : lengths) {
+            refused(answers, length, 1, 8, 1);
+            refused(answers, 1, length, 8, 1);
+        }
+        int[] sides = {0, 1, 2, 4, 7, 9, 12, 24, 48, 63, 65, 128, -8, -16, 8 + 65536,
+            Integer.MIN_VALUE, Integer.MAX_VALUE};
+        for (int side : sides) {
+            refused(answers, 10, 10, side, 1);
+        }
+        int[] stores = {0, -1, 8193, Integer.MIN_VALUE, Integer.MAX_VALUE};
+        for (int cells : stores) {
+            refused(answers, 10, 10, 8, cells);
+        }
+    }
+
+    private static void refused(Answers answers, int wide, int high, int side, int cells) {
         TileBins bins = new TileBins();
         bins.field(40, 20, 16, 9);
         bins.put(0, 0, 40, 20, 7);
         bins.put(1, 1, 2, 2, 8);
         bins.open(0);
         bins.next();
-        int[] lengths = {0, -1, 1025, Integer.MIN_VALUE, Integer.MAX_VALUE};
-        for (int length : lengths) {
-            refused(answers, bins, length, 1, 8, 1);
-            refused(answers, bins, 1, length, 8, 1);
-        }
-        int[] sides = {0, 1, 2, 4, 7, 9, 12, 24, 48, 63, 65, 128, -8, -16, 8 + 65536,
-            Integer.MIN_VALUE, Integer.MAX_VALUE};
-        for (int side : sides) {
-            refused(answers, bins, 10, 10, side, 1);
-        }
-        int[] stores = {0, -1, 8193, Integer.MIN_VALUE, Integer.MAX_VALUE};
-        for (int cells : stores) {
-            refused(answers, bins, 10, 10, 8, cells);
-        }
-        answers.comes("after refused fields", bins, 1);
-    }
-
-    private static void refused(
-            Answers answers, TileBins bins, int wide, int high, int side, int cells) {
         answers.refusedUnchanged("field(" + wide + ", " + high + ", " + side + ", " + cells + ")",
                 bins, IllegalArgumentException.class, () -> bins.field(wide, high, side, cells));
+        answers.comes("after a refused field", bins, 1);
     }
 }

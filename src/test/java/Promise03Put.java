@@ -14,10 +14,10 @@ public final class Promise03Put {
     private static void numbersFromZero(Answers answers) {
         TileBins bins = new TileBins();
         bins.field(100, 100, 8, 8192);
-        for (int n = 0; n < 200; n++) {
+        for (int n = 0; n < 150; n++) {
             answers.same("put " + n, bins.put(n, n, n + 9, n + 9, -n), n);
         }
-        for (int n = 0; n < 200; n++) {
+        for (int n = 0; n < 150; n++) {
             answers.same("tag of " + n, bins.item(n, 4), -n);
             answers.same("x0 of " + n, bins.item(n, 0), n < 100 ? n : 0);
         }

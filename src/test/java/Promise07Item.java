@@ -21,7 +21,7 @@ public final class Promise07Item {
         check(answers, bins, new int[] {9, 3, 8, 9, 6}, 0, 0, 0, 0, 6, 0);
         check(answers, bins, new int[] {TOP, TOP, LOW, LOW, 7}, 0, 0, 0, 0, 7, 0);
         check(answers, bins, new int[] {LOW, 0, 0, 20, 8}, 0, 0, 0, 0, 8, 0);
-        wrongInputs(answers, bins);
+        wrongInputs(answers);
         answers.end();
     }
 
@@ -30,22 +30,29 @@ public final class Promise07Item {
         answers.partsOfItem("item " + n, bins, n, due);
     }
 
-    private static void wrongInputs(Answers answers, TileBins bins) {
-        int items = bins.count(0);
-        int[] none = {-1, items, items + 1, 4095, 4096, LOW, TOP, 715827883};
+    private static void wrongInputs(Answers answers) {
+        int[] none = {-1, 2, 3, 4095, 4096, LOW, TOP, 715827883};
         for (int n : none) {
-            answers.refusedUnchanged("item(" + n + ", 0)", bins, IndexOutOfBoundsException.class,
-                    () -> bins.item(n, 0));
+            answers.refusedUnchanged("item(" + n + ", 0)", Promise07Item::twoItems,
+                    IndexOutOfBoundsException.class, bins -> bins.item(n, 0));
             // Where both are wrong, the item is looked at first: so the document names them.
-            answers.refusedUnchanged("item(" + n + ", 6)", bins, IndexOutOfBoundsException.class,
-                    () -> bins.item(n, 6));
+            answers.refusedUnchanged("item(" + n + ", 6)", Promise07Item::twoItems,
+                    IndexOutOfBoundsException.class, bins -> bins.item(n, 6));
         }
         int[] others = {-1, 6, 7, LOW, TOP};
         for (int what : others) {
-            answers.refusedUnchanged("item(0, " + what + ")", bins,
-                    IllegalArgumentException.class, () -> bins.item(0, what));
-            answers.refusedUnchanged("item(1, " + what + ")", bins,
-                    IllegalArgumentException.class, () -> bins.item(1, what));
+            answers.refusedUnchanged("item(0, " + what + ")", Promise07Item::twoItems,
+                    IllegalArgumentException.class, bins -> bins.item(0, what));
+            answers.refusedUnchanged("item(1, " + what + ")", Promise07Item::twoItems,
+                    IllegalArgumentException.class, bins -> bins.item(1, what));
         }
+    }
+
+    private static TileBins twoItems() {
+        TileBins bins = new TileBins();
+        bins.field(40, 20, 16, 100);
+        bins.put(3, 4, 20, 17, 9);
+        bins.put(0, 0, 40, 20, LOW);
+        return bins;
     }
 }

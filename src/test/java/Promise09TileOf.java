@@ -1,12 +1,11 @@
 public final class Promise09TileOf {
     public static void main(String[] args) {
         Answers answers = new Answers();
-        TileBins bins = new TileBins();
         int[] sides = {8, 16, 32, 64};
         for (int side : sides) {
-            bins.field(100, 70, side, 1);
-            everyPlace(answers, bins, 100, 70, side);
+            everyPlace(answers, 100, 70, side);
         }
+        TileBins bins = new TileBins();
         bins.field(1024, 1024, 8, 1);
         answers.same("tileOf(1023, 1023)", bins.tileOf(1023, 1023), 16383);
         answers.same("tileOf(1023, 0)", bins.tileOf(1023, 0), 127);
@@ -24,9 +23,12 @@ public final class Promise09TileOf {
         answers.end();
     }
 
-    private static void everyPlace(Answers answers, TileBins bins, int wide, int high, int side) {
+    private static void everyPlace(Answers answers, int wide, int high, int side) {
         int inRow = (wide + side - 1) / side;
         for (int y = 0; y < high; y++) {
+            // One for each line of places: an object is promised for no more than 512 calls.
+            TileBins bins = new TileBins();
+            bins.field(wide, high, side, 1);
             for (int x = 0; x < wide; x++) {
                 answers.same("side " + side + ": tileOf(" + x + ", " + y + ")", bins.tileOf(x, y),
                         y / side * inRow + x / side);
