@@ -77,10 +77,12 @@ public final class EdgesOfNumbers {
                     64 / side * (64 / side));
             answers.partsOfTile("side " + side, bins, 0, 0, 0, side, side, 0);
             refusedEach(answers, () -> fieldOf(64, 64, side), "field of side", ARGUMENT,
-                    (made, one) -> made.field(64, 64, one, 1), side - 1, side + 1, -side, side + 256, side + 65536);
+                    (made, one) -> made.field(64, 64, one, 1),
+                    side - 1, side + 1, -side, side + 256, side + 65536);
         }
         refusedEach(answers, TileBins::new, "field of side", ARGUMENT,
-                (made, one) -> made.field(64, 64, one, 1), -1, 0, 1, 2, 3, 4, 5, 6, 24, 40, 48, 56, 128, 1024);
+                (made, one) -> made.field(64, 64, one, 1),
+                -1, 0, 1, 2, 3, 4, 5, 6, 24, 40, 48, 56, 128, 1024);
     }
 
     private static void cells(Answers answers) {
@@ -187,7 +189,8 @@ public final class EdgesOfNumbers {
             for (int what = 0; what <= 4; what++) {
                 int asked = what;
                 refusedEach(answers, () -> fieldOf(field[0], field[1], field[2]),
-                        "tile(.., " + what + ")", ARGUMENT, (made, n) -> made.tile(n, asked), -1, tiles, 16384, 1 << 28, -tiles);
+                        "tile(.., " + what + ")", ARGUMENT, (made, n) -> made.tile(n, asked),
+                        -1, tiles, 16384, 1 << 28, -tiles);
             }
         }
         TileBins most = new TileBins();
